@@ -793,7 +793,7 @@ public final class CrescentCourt {
             }
         }
 
-        /** A WORD that is too long and one that no RULE has are the same FAULT at the same place. */
+        /** A WORD that is too long and one that no RULE has are one FAULT, at the same place. */
         private void scanWord() {
             while (at < length && isLetter(bytes[at])) {
                 at++;

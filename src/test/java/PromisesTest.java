@@ -12,6 +12,7 @@ public final class PromisesTest {
         promise4Read();
         promise4Tokens();
         promise4Room();
+        promise4BytesThatWent();
         promise5Place();
         promise6Moon();
         promise7Land();
@@ -30,6 +31,7 @@ public final class PromisesTest {
         promise18Vars();
         promise18Others();
         promise18SetBack();
+        promise18AskedAgain();
         promise19By();
         promise20Heard();
         promise21Date();
@@ -190,6 +192,12 @@ public final class PromisesTest {
         fault("begin if daysdaysd==1;", 1, 9);
         fault("begin if Days==1;", 1, 9);
         fault("begin if day==1;", 1, 9);
+        fault("begin if daysz==1;", 1, 9);
+        fault("begin if adays==1;", 1, 9);
+        fault("begin if days`==1;", 1, 13);
+        fault("begin if days{==1;", 1, 13);
+        fault("begin if 1/==1;", 1, 10);
+        fault("begin if 1:==1;", 1, 10);
         fault("begin if 1 = = 1;", 1, 11);
         fault("begin if 1===1;", 1, 12);
         fault("begin if 1<==1;", 1, 12);
@@ -229,6 +237,25 @@ public final class PromisesTest {
         fault(rule394 + "not if 1+1==1;", 2, rule394.length() + 12);
         fault(rule394 + "not if 1==1+ 2;", 2, rule394.length() + 13);
         fault(rule394 + "not if 1==1+;", 1, rule394.length() + 12);
+    }
+
+    /** Of a text whose last bytes went by back(). */
+    private static void faultOfCut(String text, int cut, int fault, int place) {
+        CrescentCourt x = oneLand();
+        Checks.feedText(x, text);
+        x.back(cut);
+        due("read of \"" + text + "\" less " + cut, x.read(0), fault);
+        due("place in \"" + text + "\" less " + cut, x.place(), place);
+    }
+
+    private static void promise4BytesThatWent() {
+        faultOfCut("begin if 1==1;not if 1==1;", 12, 0, NONE);
+        faultOfCut("begin   ", 2, 1, 6);
+        faultOfCut("begin if daysz", 1, 1, 13);
+        faultOfCut("begin if 12345", 1, 1, 13);
+        faultOfCut("begin if 1==", 1, 1, 10);
+        faultOfCut("begin if 1<=", 1, 1, 11);
+        faultOfCut("begin if 1==1;@", 1, 0, NONE);
     }
 
     private static void promise5Place() {
@@ -704,6 +731,45 @@ public final class PromisesTest {
         due("by then, not sooner", worth.heard(0, 1, 0, 3), 0);
     }
 
+    /** What was answered ahead of a change holds nothing back. */
+    private static void promise18AskedAgain() {
+        CrescentCourt x = new CrescentCourt();
+        x.land(0, 0);
+        x.witness(0);
+        x.report(0, 29);
+        Checks.readText(x, 0, "begin if seen==1 and light!=2; back if others==1;");
+        due("no MOON: a FALSE one", x.begins(0, 1, 1), 30);
+        due("its verdict", x.verdict(0, 1), 0);
+        x.moon(0);
+        due("behind moon()", x.begins(0, 1, 1), 29);
+        due("behind moon(): its verdict", x.verdict(0, 1), 1);
+        x.table(0, 3);
+        due("behind table()", x.begins(0, 1, 1), 30);
+        x.cell(0, 2, 1);
+        due("behind cell()", x.begins(0, 1, 1), 29);
+        x.cell(0, 2, 2);
+        due("behind cell() again", x.begins(0, 1, 1), 30);
+        due("its verdict, TRUE", x.verdict(0, 1), 2);
+        due("its WORTH", x.worth(0, 30, 1), 3);
+        x.land(0, 29);
+        due("behind land()", x.begins(1, 0, 1), 29);
+        due("its MONTH 1", x.begins(1, 1, 1), 59);
+        x.land(0, 0);
+        Checks.readText(x, 2, "begin if 1==1;");
+        due("no news", x.begins(0, 1, 1), 30);
+        x.travel(2, 0, 5);
+        due("behind travel()", x.begins(0, 1, 1), 29);
+        x.cloud(0, 29);
+        due("behind cloud()", x.verdict(0, 2), 1);
+        due("ahead of it", x.verdict(0, 1), 2);
+        x.witness(2);
+        due("behind witness()", x.worth(1, 9, 1), 2);
+        x.report(1, 29);
+        due("behind report()", x.verdict(2, 3), 1);
+        x.read(0);
+        due("behind read()", x.begins(0, 1, 3), 30);
+    }
+
     private static void promise19By() {
         CrescentCourt x = oneLand();
         Checks.readText(x, 0, "not if month==3; begin if month==9; begin if month==1;"
@@ -801,6 +867,7 @@ public final class PromisesTest {
         due("ahead of MONTH 0", x.turn(0, 0, 10, 1, 0), NONE);
         due("on its first EVENING", x.turn(0, 0, 11, 1, 0), 1);
         due("its own LAND", x.turn(0, 3, 7, 0, 0), 307);
+        due("day 1", x.turn(0, 1, 1, 1, 0), 20);
         due("EVENING 399", x.turn(0, 13, 23, 0, 0), 1323);
         due("EVENING 400", x.turn(0, 13, 24, 0, 0), NONE);
         due("no MONTH 14", x.turn(0, 14, 1, 1, 0), NONE);
