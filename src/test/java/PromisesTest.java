@@ -582,6 +582,14 @@ public final class PromisesTest {
         due("not alone", x.begins(0, 1, 0), 30);
         Checks.readText(x, 0, "begin if 1==1");
         due("a FAULT changes nothing", x.by(0, 1, 0), -2);
+        Checks.readText(x, 0, "begin if 1==2; begin if 1==1;");
+        due("the second RULE", x.by(0, 1, 0), 1);
+        for (int i = 0; i < 3; i++) {
+            Checks.readText(x, 0, "begin if 1==2;");
+            due("nothing is left of a text ahead", x.begins(0, 1, 0), 30);
+        }
+        Checks.readText(x, 0, times(11, "begin if 1==2;") + "begin if 1==1;");
+        due("the twelfth RULE", x.by(0, 1, 0), 11);
     }
 
     private static void promise18Arithmetic() {
