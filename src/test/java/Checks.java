@@ -5,12 +5,21 @@ import java.util.Arrays;
 final class Checks {
     private int made = 0;
     private int wrong = 0;
+    private String sentence = "";
+
+    /** The document's words that the calls from here on are due by. */
+    void sentence(String words) {
+        sentence = words;
+    }
 
     void due(String call, int got, int want) {
         made++;
         if (got != want) {
             wrong++;
-            System.out.println(call + " answered " + got + ", due is " + want);
+            String told = call + " answered " + got + ", due is " + want
+                    + (sentence.isEmpty() ? "" : " by \"" + sentence + "\"");
+            // Texts with any bytes are told here: what can't be printed stands as a mark.
+            System.out.println(told.replaceAll("[^ -~]", "?"));
         }
     }
 

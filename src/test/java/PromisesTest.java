@@ -54,14 +54,6 @@ public final class PromisesTest {
         return part.repeat(n);
     }
 
-    /** One LAND from EVENING 0 on whose moon is NEW at HOUR 0, without a TABLE: LIGHT 1 always. */
-    private static CrescentCourt oneLand() {
-        CrescentCourt x = new CrescentCourt();
-        x.moon(0);
-        x.land(0, 0);
-        return x;
-    }
-
     /** The EVENING on which MONTH 1 of LAND 0 begins under a text: 29 if it holds, else 30. */
     private static boolean holds(CrescentCourt x, String condition, int n) {
         due("read of " + condition, Checks.readText(x, 0, "begin if " + condition + ";"), 0);
@@ -88,7 +80,7 @@ public final class PromisesTest {
     }
 
     private static void promise2Feed() {
-        CrescentCourt x = oneLand();
+        CrescentCourt x = Worlds.oneLand();
         for (int i = 1; i <= 100; i++) {
             due("feed " + i, x.feed(MIN, MAX, -1, 0, 1), 20 * i);
         }
@@ -99,14 +91,14 @@ public final class PromisesTest {
         due("back(19)", x.back(19), 1980);
         due("feed at 1980", x.feed(0, 0, 0, 0, 0), 2000);
 
-        CrescentCourt order = oneLand();
+        CrescentCourt order = Worlds.oneLand();
         order.feed(0x62656769, 0x6e206966, 0x20313d3d, 0x313b2020, 0x20202040);
         due("the lowest byte of e comes last", order.read(0), 1);
         due("its place", order.place(), 19);
     }
 
     private static void promise3Back() {
-        CrescentCourt x = oneLand();
+        CrescentCourt x = Worlds.oneLand();
         due("back(0), empty", x.back(0), 0);
         due("back(1), empty", x.back(1), NONE);
         x.feed(0, 0, 0, 0, 0);
@@ -121,7 +113,7 @@ public final class PromisesTest {
     }
 
     private static void fault(String text, int fault, int place) {
-        CrescentCourt x = oneLand();
+        CrescentCourt x = Worlds.oneLand();
         Checks.readText(x, 0, "begin if 1 == 1;");
         due("read of \"" + text + "\"", Checks.readText(x, 0, text), fault);
         due("place in \"" + text + "\"", x.place(), place);
@@ -133,7 +125,7 @@ public final class PromisesTest {
     }
 
     private static void promise4Read() {
-        CrescentCourt x = oneLand();
+        CrescentCourt x = Worlds.oneLand();
         Checks.feedText(x, "begin if 1==1;");
         due("read(1)", x.read(1), NONE);
         due("read(-1)", x.read(-1), NONE);
@@ -241,7 +233,7 @@ public final class PromisesTest {
 
     /** Of a text whose last bytes went by back(). */
     private static void faultOfCut(String text, int cut, int fault, int place) {
-        CrescentCourt x = oneLand();
+        CrescentCourt x = Worlds.oneLand();
         Checks.feedText(x, text);
         x.back(cut);
         due("read of \"" + text + "\" less " + cut, x.read(0), fault);
@@ -259,7 +251,7 @@ public final class PromisesTest {
     }
 
     private static void promise5Place() {
-        CrescentCourt x = oneLand();
+        CrescentCourt x = Worlds.oneLand();
         due("place, no read", x.place(), NONE);
         Checks.readText(x, 0, "begin of");
         due("place of a FAULT", x.place(), 6);
@@ -314,7 +306,7 @@ public final class PromisesTest {
     }
 
     private static void promise8Table() {
-        CrescentCourt x = oneLand();
+        CrescentCourt x = Worlds.oneLand();
         due("table(1, 1)", x.table(1, 1), false);
         due("table(-1, 1)", x.table(-1, 1), false);
         due("table(0, 0)", x.table(0, 0), false);
@@ -343,7 +335,7 @@ public final class PromisesTest {
     }
 
     private static void promise9Cell() {
-        CrescentCourt x = oneLand();
+        CrescentCourt x = Worlds.oneLand();
         due("MISSING", x.cell(0, 0, 0), false);
         x.table(0, 20);
         due("cell(0, -1, 0)", x.cell(0, -1, 0), false);
@@ -362,7 +354,7 @@ public final class PromisesTest {
     }
 
     private static void promise10Travel() {
-        CrescentCourt x = oneLand();
+        CrescentCourt x = Worlds.oneLand();
         x.land(0, 3);
         int w = x.witness(1);
         x.report(w, 29);
@@ -401,7 +393,7 @@ public final class PromisesTest {
     }
 
     private static void promise12Report() {
-        CrescentCourt x = oneLand();
+        CrescentCourt x = Worlds.oneLand();
         due("no WITNESS", x.report(0, 0), NONE);
         x.witness(0);
         due("report(0, -1)", x.report(0, -1), NONE);
@@ -424,7 +416,7 @@ public final class PromisesTest {
     }
 
     private static void promise13Cloud() {
-        CrescentCourt x = oneLand();
+        CrescentCourt x = Worlds.oneLand();
         due("cloud(0, -1)", x.cloud(0, -1), NONE);
         due("cloud(0, 400)", x.cloud(0, 400), NONE);
         due("cloud(1, 0)", x.cloud(1, 0), NONE);
@@ -480,19 +472,8 @@ public final class PromisesTest {
         due("light(-1, 0)", x.light(-1, 0), NONE);
     }
 
-    /** LIGHT is 0 on EVENING 0, 1 on EVENING 1, and 2 from EVENING 2 on. */
-    private static CrescentCourt growing() {
-        CrescentCourt x = oneLand();
-        x.table(0, 60);
-        x.cell(0, 42, 1);
-        x.cell(0, 59, 2);
-        x.witness(0);
-        x.witness(0);
-        return x;
-    }
-
     private static void promise16Verdict() {
-        CrescentCourt x = growing();
+        CrescentCourt x = Worlds.growing();
         x.report(0, 0);
         x.report(0, 1);
         x.report(0, 2);
@@ -515,7 +496,7 @@ public final class PromisesTest {
         x.cell(0, 59, 0);
         due("by the TABLE of now", x.verdict(2, 3), 0);
 
-        CrescentCourt lands = growing();
+        CrescentCourt lands = Worlds.growing();
         lands.land(0, 0);
         lands.witness(1);
         lands.report(2, 0);
@@ -526,7 +507,7 @@ public final class PromisesTest {
     }
 
     private static void promise17Worth() {
-        CrescentCourt x = growing();
+        CrescentCourt x = Worlds.growing();
         due("no REPORTS", x.worth(0, 0, 0), 2);
         x.report(0, 2);
         x.report(0, 2);
@@ -556,7 +537,7 @@ public final class PromisesTest {
     }
 
     private static void promise18Begins() {
-        CrescentCourt x = oneLand();
+        CrescentCourt x = Worlds.oneLand();
         x.land(0, 370);
         for (int month = 0; month <= 13; month++) {
             due("30 DAYS each", x.begins(0, month, 0), 30 * month);
@@ -593,7 +574,7 @@ public final class PromisesTest {
     }
 
     private static void promise18Arithmetic() {
-        CrescentCourt x = oneLand();
+        CrescentCourt x = Worlds.oneLand();
         due("* ahead of +", holds(x, "2+3*4==14", 0), true);
         due("( )", holds(x, "(2+3)*4==20", 0), true);
         due("from the left", holds(x, "10-3-2==5", 0), true);
@@ -618,7 +599,7 @@ public final class PromisesTest {
     }
 
     private static void promise18Vars() {
-        CrescentCourt x = growing();
+        CrescentCourt x = Worlds.growing();
         x.land(0, 0);
         int far = x.witness(1);
         x.travel(1, 0, 0);
@@ -690,7 +671,7 @@ public final class PromisesTest {
     }
 
     private static void promise18SetBack() {
-        CrescentCourt x = oneLand();
+        CrescentCourt x = Worlds.oneLand();
         x.land(0, 0);
         x.witness(1);
         x.report(0, 29);
@@ -716,7 +697,7 @@ public final class PromisesTest {
         Checks.readText(x, 0, "back if 1==1; not if 1==1;");
         due("a not RULE is not asked", x.begins(0, 1, 1), 29);
 
-        CrescentCourt asked = oneLand();
+        CrescentCourt asked = Worlds.oneLand();
         asked.table(0, 60);
         asked.cell(0, 59, 1);
         asked.cloud(0, 29);
@@ -725,7 +706,7 @@ public final class PromisesTest {
         due("as KNOWN by none", asked.begins(0, 1, 0), 30);
         due("MONTH 2", asked.by(0, 2, 1), -2);
 
-        CrescentCourt worth = oneLand();
+        CrescentCourt worth = Worlds.oneLand();
         worth.land(0, 0);
         worth.table(1, 1);
         worth.cell(1, 0, 2);
@@ -779,7 +760,7 @@ public final class PromisesTest {
     }
 
     private static void promise19By() {
-        CrescentCourt x = oneLand();
+        CrescentCourt x = Worlds.oneLand();
         Checks.readText(x, 0, "not if month==3; begin if month==9; begin if month==1;"
                 + "back if month==9; begin if 1==1 and month!=4; back if month==3; back if 1==1;");
         due("by(0, 0, 0)", x.by(0, 0, 0), NONE);
@@ -800,7 +781,7 @@ public final class PromisesTest {
     }
 
     private static void promise20Heard() {
-        CrescentCourt x = oneLand();
+        CrescentCourt x = Worlds.oneLand();
         x.land(0, 0);
         x.witness(0);
         x.witness(1);
@@ -915,7 +896,7 @@ public final class PromisesTest {
     }
 
     private static void promise24Changed() {
-        CrescentCourt x = oneLand();
+        CrescentCourt x = Worlds.oneLand();
         x.witness(0);
         x.report(0, 59);
         x.report(0, 29);
@@ -943,7 +924,7 @@ public final class PromisesTest {
     }
 
     private static void promise25Count() {
-        CrescentCourt x = oneLand();
+        CrescentCourt x = Worlds.oneLand();
         x.land(0, 0);
         x.land(0, 0);
         x.moon(7);
